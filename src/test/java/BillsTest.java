@@ -179,6 +179,9 @@ public final class BillsTest {
         check.is("paid", great.paid(0), 998612);
         check.is("a great note", great.note(0, 999999), 998611);
         check.is("the last cent", great.note(0, 1), 0);
+        EarlybirdDesk least = Desks.approved(1, 1);
+        least.pass(1);
+        check.is("of the least amount", least.note(0, 1), 1);
     }
 
     private static void promise8State() {

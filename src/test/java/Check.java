@@ -43,12 +43,19 @@ final class Check {
         }
     }
 
-    private static Class<?> kindThrown(EarlybirdDesk desk, Call call) {
+    /** The kind of an exception that the class throws itself, or else where it comes from. */
+    static Object kindOf(RuntimeException thrown) {
+        StackTraceElement origin = thrown.getStackTrace()[0];
+        // The library's own exceptions can be of the due kind too, but no call may rely on them.
+        return origin.getModuleName() != null ? origin : thrown.getClass();
+    }
+
+    private static Object kindThrown(EarlybirdDesk desk, Call call) {
         try {
             call.on(desk);
-            return Void.class;
+            return "nothing thrown";
         } catch (RuntimeException e) {
-            return e.getClass();
+            return kindOf(e);
         }
     }
 }

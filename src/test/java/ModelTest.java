@@ -205,7 +205,7 @@ public final class ModelTest {
         try {
             return call.get();
         } catch (RuntimeException e) {
-            return e.getClass();
+            return Check.kindOf(e);
         }
     }
 }

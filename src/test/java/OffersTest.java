@@ -17,6 +17,7 @@ public final class OffersTest {
         promise15BudgetByPrices();
         promise16Most();
         promise16MostWithinLimits();
+        promise16MostLeavesOneForAnother();
         promise16TwelveOffers();
         check.end();
     }
@@ -282,6 +283,18 @@ public final class OffersTest {
         check.is("what is left of the limit counts", desk.most(0), 0);
         desk.setLimit(0, 0, 99900 + 99800);
         check.is("with as much left as the price", desk.most(0), 200);
+    }
+
+    private static void promise16MostLeavesOneForAnother() {
+        EarlybirdDesk desk = Desks.withOffers(9);
+        desk.setBudget(0, 100000000);
+        desk.note(8, 90000);
+        desk.offer(8, 200);
+        desk.setLimit(0, 0, 99900);
+        check.is("the plan takes 20 for the higher rate", desk.plan(0), 511 - 1);
+        check.is("most takes 100 of that supplier", desk.most(0), 800);
+        desk.setLimit(0, 0, 99899);
+        check.is("which needs the limit for itself", desk.most(0), 720);
     }
 
     private static void promise16TwelveOffers() {

@@ -64,4 +64,46 @@ final class Desks {
         }
         return desk;
     }
+
+    static EarlybirdDesk disputed() {
+        EarlybirdDesk desk = offered(1000, 10, 500);
+        desk.dispute(0);
+        return desk;
+    }
+
+    /** An open bill whose due day is today. */
+    static EarlybirdDesk openOnItsDueDay() {
+        EarlybirdDesk desk = withBills(1);
+        desk.pass(10);
+        return desk;
+    }
+
+    static EarlybirdDesk full() {
+        return withBills(30);
+    }
+
+    /** Bills 0 to 4 are paid early, paid (both with notes), open, disputed, approved with an offer. */
+    static EarlybirdDesk ofAllKinds() {
+        EarlybirdDesk desk = paidEarly();
+        desk.bill(0, 0, 600, 5);
+        desk.approve(1);
+        desk.pass(5);
+        desk.note(0, 100);
+        desk.note(1, 200);
+        desk.bill(0, 0, 700, 20);
+        desk.bill(0, 0, 800, 20);
+        desk.dispute(3);
+        desk.bill(0, 0, 900, 20);
+        desk.approve(4);
+        desk.offer(4, 4000);
+        desk.setBudget(0, 2000);
+        desk.setLimit(0, 0, 3000);
+        return desk;
+    }
+
+    /** As a call that answers something. */
+    static Object dispute(EarlybirdDesk desk, int bill) {
+        desk.dispute(bill);
+        return "disputed";
+    }
 }

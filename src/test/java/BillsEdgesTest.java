@@ -320,6 +320,11 @@ public final class BillsEdgesTest {
         check.range(1, 1000, Desks::paidWhenDue, (d, amount) -> d.note(0, amount));
         check.range(1, 700, () -> Desks.withClaim(300), (d, amount) -> d.note(0, amount));
         check.range(1, 1, () -> Desks.withClaim(999), (d, amount) -> d.note(0, amount));
+        check.range(1, 1, () -> {
+            EarlybirdDesk least = Desks.approved(1, 1);
+            least.pass(1);
+            return least;
+        }, (d, amount) -> d.note(0, amount));
         check.outOfRange("1 behind all", () -> Desks.withClaim(1000), d -> d.note(0, 1));
         check.outOfRange("0 behind all", () -> Desks.withClaim(1000), d -> d.note(0, 0));
         check.outOfRange("1 of a paid amount of 0", () -> {

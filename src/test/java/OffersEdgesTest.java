@@ -48,6 +48,7 @@ public final class OffersEdgesTest {
 
     private static void mosts() {
         check.test(OffersEdgesTest::promise16AnyChoice);
+        check.test(OffersEdgesTest::promise16CentMoreWithoutFirst);
         check.test(OffersEdgesTest::promise16AsTheyCouldBeClearedNow);
         check.test(OffersEdgesTest::promise16WithinBudget);
         check.test(OffersEdgesTest::promise16WithinLimits);
@@ -329,6 +330,22 @@ public final class OffersEdgesTest {
         check.is("the second of the same supplier, without the first", same.most(0), 200);
         same.setLimit(0, 0, 799);
         check.is("a cent less of the limit", same.most(0), 50);
+    }
+
+    private static void promise16CentMoreWithoutFirst() {
+        check.sentence("Promise 16", "the greatest sum of discounts that any choice [..] would bring");
+        EarlybirdDesk desk = new EarlybirdDesk();
+        int[] amounts = {1100, 1000, 1010};
+        int[] rates = {910, 500, 505};
+        for (int bill = 0; bill < amounts.length; bill++) {
+            desk.bill(0, bill, amounts[bill], 360);
+            desk.approve(bill);
+            desk.offer(bill, rates[bill]);
+        }
+        desk.setBudget(0, 950 + 959);
+        check.is("50 and 51, rather than 100", desk.most(0), 101);
+        desk.setBudget(0, 950 + 958);
+        check.is("100, when 50 and 51 are a cent too much", desk.most(0), 100);
     }
 
     private static void promise16AsTheyCouldBeClearedNow() {

@@ -183,6 +183,7 @@ public final class TermsEdgesTest {
                 + " day / 3600000");
         check.is("of 1800000000000", Desks.approved(1000000, 360).offer(0, 5000), 500000);
         check.is("of 1799998200000", Desks.approved(999999, 360).offer(0, 5000), 500000);
+        check.is("1 less than 484864 * 3600000", Desks.approved(973013, 359).offer(0, 4997), 488150);
         check.is("of 2147485000", Desks.approved(429497, 1).offer(0, 5000), 428901);
         check.is("of 1794641000000", Desks.approved(1000000, 359).offer(0, 4999), 501489);
         EarlybirdDesk old = new EarlybirdDesk();

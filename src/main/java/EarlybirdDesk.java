@@ -175,7 +175,7 @@ public final class EarlybirdDesk {
         for (int i = 0; i < offers.size(); i++) {
             together += offers.get(i).discountOn(today);
         }
-        return bestFrom(0, budgets[buyer], together);
+        return bestFrom(offers, 0, today, budgets[buyer], room, together);
     }
 
     // ---- money and days
@@ -304,10 +304,11 @@ public final class EarlybirdDesk {
     }
 
     /**
-     * The greatest sum of discounts that the offers from a place on bring within a budget and the
-     * room; together is what they would bring if all were chosen.
+     * The greatest sum of discounts that the offers from a place on bring today within a budget and
+     * the room; together is what they would bring if all were chosen.
      */
-    private int bestFrom(int place, int budget, int together) {
+    private static int bestFrom(
+            ArrayList<Bill> offers, int place, int today, int budget, int[] room, int together) {
         if (place >= offers.size() || place >= MOST_CHOICES) {
             return 0;
         }
@@ -318,12 +319,12 @@ public final class EarlybirdDesk {
         int best = 0;
         if (price <= budget && price <= room[each.supplier]) {
             room[each.supplier] -= price;
-            best = discount + bestFrom(place + 1, budget - price, behind);
+            best = discount + bestFrom(offers, place + 1, today, budget - price, room, behind);
             room[each.supplier] += price;
         }
         // Without this offer there is no more to win than what all those behind it bring.
         if (best < behind) {
-            best = Math.max(best, bestFrom(place + 1, budget, behind));
+            best = Math.max(best, bestFrom(offers, place + 1, today, budget, room, behind));
         }
         return best;
     }
